@@ -44,8 +44,15 @@ final class Check {
         try {
             return String.valueOf(call.answer());
         } catch (RuntimeException e) {
-            return e.getClass().getSimpleName();
+            String name = e.getClass().getSimpleName();
+            return isThrownByTheClassItself(e) ? name : name + " of the machine or the library";
         }
+    }
+
+    /** A list's own IndexOutOfBoundsException would look like the due one, but for where it comes from. */
+    private static boolean isThrownByTheClassItself(RuntimeException e) {
+        StackTraceElement[] trace = e.getStackTrace();
+        return trace.length > 0 && trace[0].getClassName().startsWith("CardPort");
     }
 
     /** Two objects with the same calls, one of them with the refused calls too: all that can be asked is alike. */
