@@ -1,4 +1,6 @@
-/** Runs every test of the project; the one argument is the path of CardPort.java. */
+import java.nio.file.Path;
+
+/** Runs every test of the project; the arguments are the paths of CardPort.java and of the document. */
 public final class AllTests {
     private AllTests() {
     }
@@ -11,6 +13,13 @@ public final class AllTests {
         GivenBackTests.run();
         ChargebackTests.run();
         AskingTests.run();
+        SetupSentences.run();
+        PaymentSentences.run();
+        GivenBackSentences.run();
+        ChargebackSentences.run();
+        AskingSentences.run();
+        ExceptionSentences.run();
+        Document.check(Path.of(args[1]));
         ModelTests.run();
         System.out.println(Check.passed + " passed, " + Check.failed + " failed");
         if (Check.failed != 0) {

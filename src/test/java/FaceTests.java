@@ -22,6 +22,8 @@ final class FaceTests {
         Constructor<?>[] made = CardPort.class.getDeclaredConstructors();
         Check.that("one public constructor without parameters",
                 made.length == 1 && made[0].getParameterCount() == 0 && Modifier.isPublic(made[0].getModifiers()));
+        Document.quote("Terms", "The constants: `NONE = -1`: None.");
+        Document.quote("Terms", "`OPEN = 0, ANSWERED = 1, PRESSED = 2, WON = 3, LOST = 4`: What chargebacks are.");
         Check.same("NONE", CardPort.NONE, -1);
         Check.same("OPEN", CardPort.OPEN, 0);
         Check.same("ANSWERED", CardPort.ANSWERED, 1);
