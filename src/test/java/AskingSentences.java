@@ -7,6 +7,7 @@ final class AskingSentences {
 
     static void run() {
         netOfADay();
+        netOfADayByBanks();
         netInAll();
         netAddsUp();
         netOfOneBank();
@@ -51,6 +52,46 @@ final class AskingSentences {
                 net(3, false) -> 0
                 pass(100) -> 106
                 net(2, false) -> 0
+                """);
+    }
+
+    /** Each bank is paid, and pays, on the day before and on the day itself. */
+    private static void netOfADayByBanks() {
+        Script.terms(17, "on a day", """
+                authorise(0, 1, 1000) -> 0
+                authorise(3, 2, 1000) -> 1
+                authorise(6, 3, 1000) -> 2
+                authorise(9, 4, 1000) -> 3
+                capture(0, 99) -> 0
+                capture(1, 98) -> 1
+                capture(2, 96) -> 2
+                capture(3, 92) -> 3
+                net(0, false) -> -7
+                net(1, false) -> 1
+                net(2, false) -> 2
+                net(3, false) -> 4
+                pass(1) -> 1
+                net(0, false) -> 0
+                net(1, false) -> 0
+                net(2, false) -> 0
+                net(3, false) -> 0
+                capture(0, 1) -> 4
+                capture(1, 3) -> 5
+                capture(2, 7) -> 6
+                capture(3, 15) -> 7
+                net(0, false) -> 14
+                net(1, false) -> -2
+                net(2, false) -> -4
+                net(3, false) -> -8
+                net(0, true) -> 7
+                net(1, true) -> -1
+                net(2, true) -> -2
+                net(3, true) -> -4
+                pass(2) -> 3
+                net(0, false) -> 0
+                net(1, false) -> 0
+                net(2, false) -> 0
+                net(3, false) -> 0
                 """);
     }
 

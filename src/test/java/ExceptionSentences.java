@@ -35,6 +35,10 @@ final class ExceptionSentences {
         }
     }
 
+    /** A call behind the rows of the state, and whether it is not possible there with arguments in range. */
+    private record Tried(String state, String name, boolean isImpossible, Range[] ranges) {
+    }
+
     private static final Range AMOUNT = new Range(false, 1, 100000);
     private static final Range BOOLEAN = new Range(false, 0, 1);
     private static final Range RANK = new Range(true, 0, Integer.MAX_VALUE);
@@ -46,6 +50,9 @@ final class ExceptionSentences {
         everyCallIn("", 0, 0, 0);
         everyCallIn(ONE_CAPTURE, 1, 1, 0);
         everyCallIn(ALL_DONE, 60, 2, 2);
+        impossiblePayments();
+        impossibleGivingBack();
+        impossibleStages();
         moreThanTold();
         severalApply();
         changesNothing();
@@ -81,41 +88,94 @@ final class ExceptionSentences {
         every(state, "count", upTo(4));
     }
 
-    /** All combinations of the edges of the arguments. */
-    private static void every(String state, String name, Range... ranges) {
-        combine(state, name, ranges, new long[ranges.length], 0);
+    /** One payment of each reason that holds a capture or a cancel off, and one network of 60 payments. */
+    private static void impossiblePayments() {
+        String payment = "authorise(0, 6, 10000) -> 0\n";
+        everyImpossible(Script.times(60, "authorise(0, 6, 100) -> #"), "authorise", things(12), things(8), AMOUNT);
+        everyImpossible(payment + Script.times(100, "capture(0, 1) -> #"), "capture", things(1), AMOUNT);
+        everyImpossible(payment + "capture(0, 10000) -> 0", "capture", things(1), AMOUNT);
+        for (String end : new String[] {"pass(8) -> 8", "cancel(0) -> 10000"}) {
+            everyImpossible(payment + end, "capture", things(1), AMOUNT);
+            everyImpossible(payment + end, "cancel", things(1));
+        }
     }
 
-    private static void combine(String state, String name, Range[] ranges, long[] values, int at) {
-        if (at == ranges.length) {
-            one(state, name, ranges, values);
+    private static void impossibleGivingBack() {
+        String capture = "authorise(0, 6, 10000) -> 0\ncapture(0, 10000) -> 0\n";
+        everyImpossible(capture + Script.times(60, "dispute(0, 1) -> #"), "dispute", things(1), AMOUNT);
+        String disputed = "dispute(0, 10000) -> 0\n";
+        String answered = disputed + "answer(0) -> 10\n";
+        String pressed = answered + "press(0) -> 1\n";
+        String[] allGivenBack = {"refund(0, 10000) -> 10000", disputed, answered, pressed, pressed + "rule(0, true) -> 3",
+            disputed + "pass(11) -> 11"};
+        for (String givenBack : allGivenBack) {
+            everyImpossible(capture + givenBack, "refund", things(1), AMOUNT);
+            everyImpossible(capture + givenBack, "dispute", things(1), AMOUNT);
+        }
+    }
+
+    private static void impossibleStages() {
+        String open = "authorise(0, 6, 100) -> 0\ncapture(0, 100) -> 0\ndispute(0, 9) -> 0\n";
+        String answered = open + "answer(0) -> 10\n";
+        String pressed = answered + "press(0) -> 1\n";
+        String[] stages = {open, answered, pressed, pressed + "rule(0, true) -> 3", pressed + "rule(0, false) -> 4",
+            open + "pass(11) -> 11", answered + "pass(11) -> 11"};
+        for (String stage : stages) {
+            if (!stage.equals(open)) {
+                everyImpossible(stage, "answer", things(1));
+            }
+            if (!stage.equals(answered)) {
+                everyImpossible(stage, "press", things(1));
+            }
+            if (!stage.equals(pressed)) {
+                everyImpossible(stage, "rule", things(1), BOOLEAN);
+            }
+        }
+    }
+
+    private static void every(String state, String name, Range... ranges) {
+        boolean isImpossible = MAY_BE_IMPOSSIBLE.contains(name) && state.equals(ALL_DONE);
+        combine(new Tried(state, name, isImpossible, ranges), new long[ranges.length], 0);
+    }
+
+    private static void everyImpossible(String state, String name, Range... ranges) {
+        combine(new Tried(state, name, true, ranges), new long[ranges.length], 0);
+    }
+
+    /** All combinations of the edges of the arguments. */
+    private static void combine(Tried tried, long[] values, int at) {
+        if (at == values.length) {
+            one(tried, values);
             return;
         }
-        long[] edges = ranges[at] == BOOLEAN ? new long[] {0, 1} : ranges[at].edges();
+        Range range = tried.ranges[at];
+        long[] edges = range == BOOLEAN ? new long[] {0, 1} : range.edges();
         for (long edge : edges) {
             values[at] = edge;
-            combine(state, name, ranges, values, at + 1);
+            combine(tried, values, at + 1);
         }
     }
 
-    private static void one(String state, String name, Range[] ranges, long[] values) {
+    private static void one(Tried tried, long[] values) {
+        String state = tried.state;
+        String name = tried.name;
         StringBuilder call = new StringBuilder(name).append('(');
         boolean hasNoSuchThing = false;
         boolean isOutOfRange = false;
         for (int i = 0; i < values.length; i++) {
             call.append(i == 0 ? "" : ", ").append(values[i]);
-            boolean isOutside = !ranges[i].holds(values[i]);
-            hasNoSuchThing |= isOutside && ranges[i].isOfAThing;
-            isOutOfRange |= isOutside && !ranges[i].isOfAThing;
+            Range range = tried.ranges[i];
+            boolean isOutside = !range.holds(values[i]);
+            hasNoSuchThing |= isOutside && range.isOfAThing;
+            isOutOfRange |= isOutside && !range.isOfAThing;
         }
         call.append(')');
         int promise = PROMISE_OF_THE_FIRST_NAME + NAMES.indexOf(name);
-        boolean isImpossible = MAY_BE_IMPOSSIBLE.contains(name) && state.equals(ALL_DONE);
         if (hasNoSuchThing) {
-            Script.terms(promise, isOutOfRange || isImpossible ? ORDER : INDEX, state, call + " -> Index");
+            Script.terms(promise, isOutOfRange || tried.isImpossible ? ORDER : INDEX, state, call + " -> Index");
         } else if (isOutOfRange) {
-            Script.terms(promise, isImpossible ? ORDER : ARGUMENT, state, call + " -> Argument");
-        } else if (isImpossible) {
+            Script.terms(promise, tried.isImpossible ? ORDER : ARGUMENT, state, call + " -> Argument");
+        } else if (tried.isImpossible) {
             Script.terms(promise, STATE, state, call + " -> State");
         } else if (!MAY_BE_IMPOSSIBLE.contains(name)) {
             Script.terms(promise, ARGUMENT, state, call.toString());

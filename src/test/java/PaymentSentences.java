@@ -558,7 +558,13 @@ final class PaymentSentences {
                 capture(1, 100001) -> Argument
                 """);
         Script.promise(5, "Throws `IllegalStateException` as told above", "authorise(0, 0, 1000) -> 0",
-                Script.times(100, "capture(0, 1) -> #"), "capture(0, 1) -> State");
+                Script.times(99, "capture(0, 1) -> #"), """
+                capture(0, 0) -> Argument
+                capture(0, 1) -> 99
+                capture(0, 1) -> State
+                capture(0, 0) -> Argument
+                capture(1, 1) -> Index
+                """);
         Script.promise(5, "if it has expired", twoPayments, """
                 pass(7) -> 7
                 capture(0, 1) -> 0
