@@ -7,8 +7,9 @@ import java.util.Set;
 import java.util.TreeMap;
 import java.util.TreeSet;
 
-/** The sentences that tests quote: each must stand in the document, and each of the document must be quoted. */
+/** The sentences, and the lines of the face, that tests quote: each must stand in the document, and each of the document must be quoted. */
 final class Document {
+    private static final String FACE = "The public face";
     private static final Map<String, Set<String>> quotes = new TreeMap<>();
 
     private Document() {
@@ -49,6 +50,8 @@ final class Document {
             isCode ^= line.startsWith("```");
             if (line.startsWith("## ")) {
                 section = line.substring(3).split(":")[0];
+            } else if (section.equals(FACE) && isCode && isLineOfTheFace(line)) {
+                sentences.computeIfAbsent(FACE, key -> new ArrayList<>()).add(line.trim());
             } else if (isTold(section) && !isCode && isSentence(line)) {
                 sentences.computeIfAbsent(section, key -> new ArrayList<>()).addAll(List.of(line.split("(?<=\\.) ")));
             }
@@ -58,6 +61,10 @@ final class Document {
 
     private static boolean isTold(String section) {
         return section.equals("What it is") || section.equals("Terms") || section.startsWith("Promise ");
+    }
+
+    private static boolean isLineOfTheFace(String line) {
+        return !line.startsWith("```") && !line.equals("}");
     }
 
     /** Not the headings of paragraphs, and not "Returns that.", which says nothing. */

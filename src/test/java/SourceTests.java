@@ -1,8 +1,9 @@
 import java.nio.file.Files;
 import java.nio.file.Path;
+import java.util.ArrayList;
 import java.util.List;
 
-/** A few rules of LANGUAGE.md that the source's text shows. */
+/** A few rules of LANGUAGE.md that the source's text shows, and the face as the document writes it. */
 final class SourceTests {
     private static final List<String> IMPORTS = List.of("import java.util.ArrayList;", "import java.util.List;");
     private static final String[] BANNED = {
@@ -10,11 +11,38 @@ final class SourceTests {
         "Thread", "Random", ".hashCode", ".toString", "getMessage", "Optional", "Map<", "stream(", "protected "
     };
 
+    /** The document's section 'The public face', word for word. */
+    private static final List<String> FACE = List.of(
+            "public final class CardPort {",
+            "public static final int NONE = -1;",
+            "public static final int OPEN = 0, ANSWERED = 1, PRESSED = 2, WON = 3, LOST = 4;",
+            "public CardPort();",
+            "public int shop(int shop, int kind) throws IndexOutOfBoundsException;",
+            "public int kind(int kind, int rate, int cap) throws IndexOutOfBoundsException, IllegalArgumentException;",
+            "public int authorise(int card, int shop, int amount) throws IndexOutOfBoundsException, IllegalArgumentException, IllegalStateException;",
+            "public int capture(int payment, int amount) throws IndexOutOfBoundsException, IllegalArgumentException, IllegalStateException;",
+            "public int cancel(int payment) throws IndexOutOfBoundsException, IllegalStateException;",
+            "public int refund(int capture, int amount) throws IndexOutOfBoundsException, IllegalArgumentException, IllegalStateException;",
+            "public int dispute(int capture, int amount) throws IndexOutOfBoundsException, IllegalArgumentException, IllegalStateException;",
+            "public int answer(int chargeback) throws IndexOutOfBoundsException, IllegalStateException;",
+            "public int press(int chargeback) throws IndexOutOfBoundsException, IllegalStateException;",
+            "public int rule(int chargeback, boolean isForCard) throws IndexOutOfBoundsException, IllegalStateException;",
+            "public int pass(int days) throws IllegalArgumentException;",
+            "public int paymentOf(int payment, int what) throws IndexOutOfBoundsException, IllegalArgumentException;",
+            "public int captureOf(int capture, int what) throws IndexOutOfBoundsException, IllegalArgumentException;",
+            "public int chargebackOf(int chargeback, int what) throws IndexOutOfBoundsException, IllegalArgumentException;",
+            "public int limit(int card) throws IndexOutOfBoundsException;",
+            "public long net(int bank, boolean isAll) throws IndexOutOfBoundsException;",
+            "public long netAnew(int bank) throws IndexOutOfBoundsException;",
+            "public int due(int rank) throws IndexOutOfBoundsException;",
+            "public int count(int what) throws IllegalArgumentException;");
+
     private SourceTests() {
     }
 
     static void run(String path) throws Exception {
         List<String> lines = Files.readAllLines(Path.of(path));
+        faceIsAsWritten(lines);
         for (String line : lines) {
             Check.that("an import that is listed: " + line, !line.startsWith("import ") || IMPORTS.contains(line));
             if (line.trim().startsWith("//") || line.trim().startsWith("/**")) {
@@ -26,6 +54,33 @@ final class SourceTests {
             Check.that("only signs 1 to 127: " + line, line.chars().allMatch(sign -> sign >= 1 && sign <= 127));
         }
         partsOfTheInterface(lines);
+    }
+
+    /** Nothing that is public but the document's lines, in their order, with bodies. */
+    private static void faceIsAsWritten(List<String> lines) {
+        List<String> written = new ArrayList<>();
+        for (String line : lines) {
+            if (line.trim().startsWith("public ")) {
+                boolean isBody = line.endsWith(") {") || line.endsWith("Exception {");
+                written.add(isBody ? line.trim().replace(" {", ";") : line.trim());
+            }
+        }
+        Check.same("the face in the source", String.join("\n", written), String.join("\n", FACE));
+        for (String line : FACE) {
+            Document.quote("The public face", line);
+        }
+    }
+
+    /** The calls of the face with the names of their arguments, such as "shop(shop, kind)". */
+    static List<String> callsOfTheFace() {
+        List<String> calls = new ArrayList<>();
+        for (String line : FACE) {
+            if (line.contains(") throws ")) {
+                String[] parts = line.substring("public ".length(), line.indexOf(')')).split("[(]");
+                calls.add(parts[0].split(" ")[1] + "(" + parts[1].replaceAll("(int|boolean) ", "") + ")");
+            }
+        }
+        return calls;
     }
 
     private static void partsOfTheInterface(List<String> lines) {
