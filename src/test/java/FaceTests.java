@@ -2,10 +2,12 @@ import java.lang.reflect.Constructor;
 import java.lang.reflect.Field;
 import java.lang.reflect.Method;
 import java.lang.reflect.Modifier;
+import java.util.ArrayList;
+import java.util.List;
 import java.util.Set;
 import java.util.TreeSet;
 
-/** The face of the class, as the document's section 'The public face' writes it, and nothing beside it. */
+/** The face of the class, as the document's section 'The public face' writes it, nothing beside it, and its sizes. */
 final class FaceTests {
     private static final String I = " IndexOutOfBoundsException";
     private static final String A = " IllegalArgumentException";
@@ -31,6 +33,7 @@ final class FaceTests {
         Check.same("WON", CardPort.WON, 3);
         Check.same("LOST", CardPort.LOST, 4);
         noPrivateMethodIsNamedAsAPublicOne();
+        classesKeepTheirSizes();
     }
 
     private static String methods() {
@@ -103,6 +106,28 @@ final class FaceTests {
         }
         for (Method m : CardPort.class.getDeclaredMethods()) {
             Check.that(m + " has a name of its own", !Modifier.isPrivate(m.getModifiers()) || !names.contains(m.getName()));
+        }
+    }
+
+    /** LANGUAGE.md, rules 2, 5 and 11. */
+    private static void classesKeepTheirSizes() {
+        List<Class<?>> classes = new ArrayList<>(List.of(CardPort.class.getDeclaredClasses()));
+        Check.that("rule 11: at most some twelve classes", classes.size() < 12);
+        for (Class<?> each : classes) {
+            Check.that("rule 2: " + each + " is static", Modifier.isStatic(each.getModifiers()));
+        }
+        classes.add(CardPort.class);
+        for (Class<?> each : classes) {
+            int fields = 0;
+            for (Field f : each.getDeclaredFields()) {
+                boolean isStatic = Modifier.isStatic(f.getModifiers());
+                fields += isStatic ? 0 : 1;
+                Check.that("rule 5: " + f + " is final", !isStatic || Modifier.isFinal(f.getModifiers()));
+            }
+            Check.that("rule 11: at most some twenty fields in " + each, fields <= 20);
+            for (Method m : each.getDeclaredMethods()) {
+                Check.that("rule 11: at most seven parameters in " + m, m.getParameterCount() <= 7);
+            }
         }
     }
 }

@@ -54,6 +54,19 @@ final class SourceTests {
             Check.that("only signs 1 to 127: " + line, line.chars().allMatch(sign -> sign >= 1 && sign <= 127));
         }
         partsOfTheInterface(lines);
+        methodsAreShort(lines);
+    }
+
+    /** LANGUAGE.md, rule 11. */
+    private static void methodsAreShort(List<String> lines) {
+        int from = 0;
+        for (int i = 0; i < lines.size(); i++) {
+            if (lines.get(i).matches(" {4}\\S.* \\{| {8}\\S.*\\) \\{")) {
+                from = i;
+            } else if (lines.get(i).matches(" {4,8}}")) {
+                Check.that("rule 11: some sixty lines behind " + lines.get(from), i - from < 60);
+            }
+        }
     }
 
     /** Nothing that is public but the document's lines, in their order, with bodies. */
